@@ -14,6 +14,8 @@ public final class GroupsTest {
     refusals();
     setsAndFolds();
     manyOfGroups();
+    nothingIsLeftInANewRun();
+    asManyAsCanBe();
     Due.close();
   }
 
@@ -50,6 +52,10 @@ public final class GroupsTest {
     CounterHouse x = new CounterHouse();
     x.tune(0, 10);
     x.plane(5, 4, 0, 0);
+    due("EDGE by the LAG of PLANE 5", x.many(12), 996);
+    x.plane(0, 6, 0, 0);
+    due("EDGE by the LAG of PLANE 0", x.many(12), 994);
+    x.plane(0, 0, 0, 0);
     x.pulse(0, 100, 0);
     // EDGE is LATEST less 10 less 4; the GROUP is SHUT once 105 is less
     x.pulse(1, 119, 0);
@@ -175,5 +181,52 @@ public final class GroupsTest {
     x.tune(2, 2);
     for (int i = 0; i < 7; i++) x.pulse(planes[i], moments[i], 0);
     due("COINCIDENCES with FOLD 2", x.many(8), 2);
+  }
+
+  private static void nothingIsLeftInANewRun() {
+    CounterHouse x = new CounterHouse();
+    for (int i = 0; i < 12; i++) x.pulse(i % 3, 100 + i / 3 * 20, 4);
+    x.end();
+    due("COINCIDENCES", x.many(8), 4);
+    due("twos", x.twos(0, 1, 0), 4);
+    x.anew();
+    x.pulse(5, 300, 1);
+    x.end();
+    due("folds(3) in a new RUN", x.folds(3), 0);
+    due("having(7, 1)", x.having(7, 1), 0);
+    due("having(8, 2)", x.having(8, 2), 1);
+    due("many(8)", x.many(8), 0);
+    due("many(10)", x.many(10), 0);
+    due("through(0, 4)", x.through(0, 4), 0);
+    due("twos(0, 1, 0)", x.twos(0, 1, 0), 0);
+    due("shifted(0, 0)", x.shifted(0, 0), 0);
+    due("group(1, 0)", x.group(1, 0), -1);
+    due("member(0, 1, 0)", x.member(0, 1, 0), -9);
+    group(x, 0, 300, 32, 1, 0, 0);
+  }
+
+  private static void asManyAsCanBe() {
+    CounterHouse x = new CounterHouse();
+    for (int i = 0; i < 240; i++) x.pulse(i % 6, 41 * i, i % 16);
+    due("end()", x.end(), 1);
+    due("240 GROUPS", x.many(7), 240);
+    group(x, 239, 41 * 239, 32, 1, 0, 0);
+    due("the MEMBER of the last one", x.member(239, 5, 1), 15);
+    due("its neighbour is in the GROUP ahead of it", x.member(239, 4, 0), -9);
+    due("the next PLANE is in the GROUP behind it", x.member(238, 5, 0), -9);
+    due("group(240, 0)", x.group(240, 0), -1);
+    due("folds(1)", x.folds(1), 240);
+    due("shifted(0, 0)", x.shifted(0, 0), 0);
+    due("shifted(21, 41): all in twos", x.shifted(21, 41), 120);
+    x.anew();
+    for (int i = 0; i < 240; i++) x.pulse(i % 2, 77, i % 16);
+    due("end()", x.end(), 240);
+    due("one GROUP", x.many(7), 1);
+    group(x, 0, 77, 3, 240, 238, 0);
+    due("twos of all", x.twos(0, 1, 0), 120 * 120);
+    due("twos beyond all", x.twos(0, 1, 200), 0);
+    due("twos ahead of all", x.twos(1, 0, -200), 0);
+    due("shifted(1, 1)", x.shifted(1, 1), 1);
+    due("shifted(1, 6)", x.shifted(1, 6), 0);
   }
 }

@@ -45,6 +45,8 @@ public final class TracksTest {
     track("up", house(2, 0, 3, 4, 5, 6, 7, 8), 3, 1, 63, 0);
     track("steepest up", house(2, 0, 0, 3, 6, 9, 12, 15), 0, 3, 63, 0);
     track("steepest down", house(2, 0, 15, 12, 9, 6, 3, 0), 15, -3, 63, 0);
+    track("2 up", house(2, 0, -1, 3, 5, -1, 9), 1, 2, 22, 0);
+    track("2 down", house(2, 0, -1, 13, 11, -1, 7), 15, -2, 22, 0);
     track("level at 15", house(2, 0, 15, -1, -1, -1, -1, 15), 15, 0, 33, 0);
     noTrack("too steep", house(2, 0, 0, 4, -1, -1, -1, -1));
     noTrack("a would be -9", house(2, 0, -1, -1, -1, 0, 3, 6));
@@ -53,6 +55,7 @@ public final class TracksTest {
 
   private static void whichOfSeveral() {
     track("most MEMBERS", house(2, 0, 5, 9, 5, 1, 5, 2), 5, 0, 21, 0);
+    track("one MEMBER more", house(2, 0, 4, 4, 6, 7), 4, 1, 13, 0);
     track("most MEMBERS ahead of the least MISSES", house(2, 2, 3, 4, 5, 9, 7, 8), 4, 1, 63, 7);
     track("least MISSES ahead of b nearer to 0", house(2, 1, 5, 6), 5, 1, 3, 0);
     track("b nearer to 0", house(2, 3, 1, -1, -1, -1, 3), 1, 0, 17, 2);
