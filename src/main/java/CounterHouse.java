@@ -124,14 +124,14 @@ public final class CounterHouse {
 
     public int group(int k, int what) {
         if (!isGroup(k)) return UNKNOWN;
-        int first = groups.first[k];
-        int end = groups.first[k + 1];
+        int first = groups.endOf(k - 1);
+        int end = groups.endOf(k);
         switch (what) {
-            case 0: return liveRow.when[first] + TOLD_ABOVE_TIME;
+            case 0: return liveRow.whenAt(first) + TOLD_ABOVE_TIME;
             case 1: return groups.set[k];
             case 2: return end - first;
             case 3: return end - first - Integer.bitCount(groups.set[k]);
-            case 4: return liveRow.when[end - 1] - liveRow.when[first];
+            case 4: return liveRow.whenAt(end - 1) - liveRow.whenAt(first);
             default: return OUTSIDE;
         }
     }
@@ -139,8 +139,8 @@ public final class CounterHouse {
     public int member(int k, int plane, int what) {
         if (!isGroup(k) || !isPlane(plane)) return UNKNOWN;
         if (!isWithin(what, 0, 1)) return OUTSIDE;
-        int i = liveRow.indexOf(plane, groups.first[k], groups.first[k + 1]);
-        if (i < 0) return NONE;
+        int i = liveRow.indexOf(plane, groups.endOf(k - 1), groups.endOf(k));
+        if (!liveRow.has(i)) return NONE;
         return what == 0 ? liveRow.when[i] + lag[plane] : liveRow.strip[i];
     }
 
@@ -172,7 +172,7 @@ public final class CounterHouse {
         shiftedRow.fillShifted(liveRow, known, set, by);
         int count = 0;
         int first = 0;
-        for (int i = 0; i < MOST_KEPT && first < shiftedRow.size; i++) {
+        for (int i = 0; i < MOST_KEPT && shiftedRow.has(first); i++) {
             int end = shiftedRow.endOfGroup(first, shiftedRow.size, setting[WIDTH]);
             if (isCoincidence(shiftedRow.planesOf(first, end))) count++;
             first = end;
@@ -184,17 +184,7 @@ public final class CounterHouse {
         if (!isPlane(a) || !isPlane(b)) return UNKNOWN;
         if (!isWithin(d, -MOST_APART, MOST_APART)) return OUTSIDE;
         if (a == b) return STATE;
-        int count = 0;
-        int other = 0;
-        for (int i = 0; i < known; i++) {
-            if (liveRow.plane[i] != a) continue;
-            int time = liveRow.when[i] + d;
-            while (other < known && liveRow.when[other] < time) other++;
-            for (int j = other; j < known && liveRow.when[j] == time; j++) {
-                if (liveRow.plane[j] == b) count++;
-            }
-        }
-        return count;
+        return liveRow.countApart(a, b, d, known);
     }
 
     public int live(int k) {
@@ -291,7 +281,8 @@ public final class CounterHouse {
     }
 
     private int latest() {
-        return keptRow.size > 0 ? keptRow.when[keptRow.size - 1] : -1;
+        int last = keptRow.size - 1;
+        return keptRow.has(last) ? keptRow.when[last] : -1;
     }
 
     private int span() {
@@ -323,6 +314,7 @@ public final class CounterHouse {
     }
 
     private void settle(int moment, int k, int strip) {
+        if (!isPlane(k)) return;
         boolean isLive = moment >= deadUntil[k];
         if (isLive) liveRow.insert(moment - lag[k], k, strip);
         if (isLive || manner[k] == STRETCHED) deadUntil[k] = moment + dead[k];
@@ -330,7 +322,7 @@ public final class CounterHouse {
 
     private boolean nextGroupIsShut(int edge) {
         int first = groups.pulses();
-        return first < known && liveRow.when[first] + setting[WIDTH] < edge;
+        return first < known && liveRow.whenAt(first) + setting[WIDTH] < edge;
     }
 
     private void shutGroup() {
@@ -405,6 +397,14 @@ public final class CounterHouse {
             strip = new int[MOST_KEPT];
         }
 
+        boolean has(int i) {
+            return i >= 0 && i < size;
+        }
+
+        int whenAt(int i) {
+            return has(i) ? when[i] : 0;
+        }
+
         void insert(int w, int p, int s) {
             if (size >= MOST_KEPT) return;
             int i = size;
@@ -430,15 +430,30 @@ public final class CounterHouse {
 
         int countOf(int p, int end) {
             int count = 0;
-            for (int i = 0; i < end; i++) {
+            for (int i = 0; i < end && has(i); i++) {
                 if (plane[i] == p) count++;
+            }
+            return count;
+        }
+
+        /** Of the first ones, how many twos of a pulse of plane p and one of plane q that is d later. */
+        int countApart(int p, int q, int d, int end) {
+            int count = 0;
+            int other = 0;
+            for (int i = 0; i < end && has(i); i++) {
+                if (plane[i] != p) continue;
+                int later = when[i] + d;
+                while (other < end && has(other) && when[other] < later) other++;
+                for (int j = other; j < end && has(j) && when[j] == later; j++) {
+                    if (plane[j] == q) count++;
+                }
             }
             return count;
         }
 
         /** Where the first pulse of a plane is; -1 without one. */
         int indexOf(int p, int from, int end) {
-            for (int i = from; i < end; i++) {
+            for (int i = from; i < end && has(i); i++) {
                 if (plane[i] == p) return i;
             }
             return -1;
@@ -446,28 +461,31 @@ public final class CounterHouse {
 
         /** Where the group that begins at first is over, at the latest at end. */
         int endOfGroup(int first, int end, int width) {
+            int most = whenAt(first) + width;
             int i = first + 1;
-            while (i < end && when[i] <= when[first] + width) i++;
+            while (i < end && has(i) && when[i] <= most) i++;
             return i;
         }
 
         int planesOf(int from, int end) {
             int set = 0;
-            for (int i = from; i < end; i++) set |= 1 << plane[i];
+            for (int i = from; i < end && has(i); i++) set |= 1 << plane[i];
             return set;
         }
 
         void putMemberStrips(int from, int end, int[] strips) {
-            Arrays.fill(strips, NONE);
-            // backwards, so that of each plane the first one stays
-            for (int i = end - 1; i >= from; i--) strips[plane[i]] = strip[i];
+            for (int k = 0; k < strips.length; k++) {
+                int i = indexOf(k, from, end);
+                strips[k] = has(i) ? strip[i] : NONE;
+            }
         }
 
         /**
          * Takes the first ones of another row, those of a set of planes so much later. Of two at one time either may
          * come first: the sets of groups are the same.
          */
-        void fillShifted(Row from, int end, int set, int by) {
+        void fillShifted(Row from, int howMany, int set, int by) {
+            int end = Math.min(howMany, from.size);
             int others = ALL_PLANES & ~set;
             int still = from.nextOf(others, 0, end);
             int moved = from.nextOf(set, 0, end);
@@ -486,15 +504,15 @@ public final class CounterHouse {
 
         private int nextOf(int set, int from, int end) {
             int i = from;
-            while (i < end && (set >> plane[i] & 1) == 0) i++;
+            while (i < end && has(i) && (set >> plane[i] & 1) == 0) i++;
             return i;
         }
     }
 
     /** The shut groups and their tracks. */
     private static final class Groups {
-        /** Where a group begins in the live row; it is over where the next one begins. */
-        final int[] first;
+        /** Where a group is over in the live row; the next one begins there. */
+        final int[] end;
         final int[] set;
         final int[] trackStart;
         final int[] trackSlope;
@@ -504,7 +522,7 @@ public final class CounterHouse {
         int size;
 
         Groups() {
-            first = new int[MOST_KEPT + 1];
+            end = new int[MOST_KEPT];
             set = new int[MOST_KEPT];
             trackStart = new int[MOST_KEPT];
             trackSlope = new int[MOST_KEPT];
@@ -512,19 +530,24 @@ public final class CounterHouse {
             trackMisses = new int[MOST_KEPT];
         }
 
-        void add(int end, int planes, LineSearch found) {
+        void add(int over, int planes, LineSearch found) {
             if (size >= MOST_KEPT) return;
+            end[size] = over;
             set[size] = planes;
             trackStart[size] = found.start;
             trackSlope[size] = found.slope;
             trackSet[size] = found.set;
             trackMisses[size] = found.misses;
             size++;
-            first[size] = end;
+        }
+
+        /** 0 for the one ahead of the first. */
+        int endOf(int g) {
+            return g >= 0 && g < size ? end[g] : 0;
         }
 
         int pulses() {
-            return first[size];
+            return endOf(size - 1);
         }
 
         boolean hasTrack(int g) {
