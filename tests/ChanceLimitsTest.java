@@ -185,6 +185,14 @@ public final class ChanceLimitsTest {
     due("13: EDGE 101: it is, ahead of the end", x.twos(0, 1, 0), 1);
     due("13: by TIME, not by MOMENT", x.twos(0, 1, 30), 0);
     x.anew();
+    pairs(x, 0, 100, 0, 101, 2, 101, 3, 131);
+    due("13: EDGE 101: one at it is LIVE", x.many(4), 3);
+    due("13: b at EDGE", x.twos(0, 2, 1), 0);
+    due("13: a at EDGE", x.twos(2, 0, -1), 0);
+    x.pulse(3, 132, 0);
+    due("13: b just below EDGE", x.twos(0, 2, 1), 1);
+    due("13: a just below EDGE", x.twos(2, 0, -1), 1);
+    x.anew();
     x.plane(0, 0, 10, 0);
     tell(tell(x, 0, 100, 109), 1, 139).end();
     due("13: not of a DEADENED one", x.twos(0, 1, 0), 0);
@@ -407,20 +415,17 @@ public final class ChanceLimitsTest {
     }
   }
 
-  private static void expectedAtTheMost() {
-    CounterHouse x = with(0, 0);
+  private static CounterHouse full(int dead, int moment) {
+    CounterHouse x = with(dead, 0);
     x.tune(1, 40);
-    for (int i = 0; i < 240; i++) x.pulse(i % 2, 0, i % 16);
+    for (int i = 0; i < 240; i++) x.pulse(i % 2, moment, i % 16);
     x.end();
-    expected("120 times 120 times 81 by 1", x, 0, 1, 1166400, 1);
-    x.anew();
-    for (int i = 0; i < 240; i++) x.pulse(i % 2, 9999, i % 16);
-    x.end();
-    expected("120 times 120 times 81 by 10000", x, 0, 1, 2916, 25);
-    x.anew();
-    x.plane(0, 0, 50, 0);
-    for (int i = 0; i < 240; i++) x.pulse(i % 2, 9999, i % 16);
-    x.end();
-    expected("LIVE ones: 1 times 120 times 81 by 10000", x, 0, 1, 243, 250);
+    return x;
+  }
+
+  private static void expectedAtTheMost() {
+    expected("120 times 120 times 81 by 1", full(0, 0), 0, 1, 1166400, 1);
+    expected("120 times 120 times 81 by 10000", full(0, 9999), 0, 1, 2916, 25);
+    expected("LIVE ones: 1 times 120 times 81 by 10000", full(50, 9999), 0, 1, 243, 250);
   }
 }

@@ -161,6 +161,7 @@ public final class TrackLimitsTest {
     track("b 0 ahead of b 1 with the lesser a, both with 1", group(3, 1, 5, 6, 6), 6, 0, 7, 1);
     track("b 1 ahead of b -2, and of b 3 with the lesser a", group(2, 0, 2, 3, NO, 9, 7), 2, 1, 3, 0);
     track("b -1 ahead of b 2 with the lesser a", group(2, 0, 0, 2, NO, 10, 9), 13, -1, 24, 0);
+    track("b 2 ahead of b -3", group(2, 0, 3, 5, NO, 4, 1), 3, 2, 3, 0);
     track("b -2 ahead of b 3 with the lesser a", group(2, 0, 0, 3, NO, 4, 2), 10, -2, 24, 0);
   }
 
