@@ -185,8 +185,8 @@ public final class ChanceLimitsTest {
     due("13: EDGE 101: it is, ahead of the end", x.twos(0, 1, 0), 1);
     due("13: by TIME, not by MOMENT", x.twos(0, 1, 30), 0);
     x.anew();
-    pairs(x, 0, 100, 0, 101, 2, 101, 3, 131);
-    due("13: EDGE 101: one at it is LIVE", x.many(4), 3);
+    pairs(x, 0, 100, 2, 101, 3, 131);
+    due("13: EDGE 101: one at it is LIVE", x.many(4), 2);
     due("13: b at EDGE", x.twos(0, 2, 1), 0);
     due("13: a at EDGE", x.twos(2, 0, -1), 0);
     x.pulse(3, 132, 0);
